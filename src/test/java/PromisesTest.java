@@ -644,6 +644,12 @@ public final class PromisesTest {
         due("BLAMED", x.read(0, 0, 3), 10);
         due("the lowest", x.read(0, 0, 4), 0);
         due("LATE", x.read(0, 0, 5), 2);
+        // 010111 101000 001011 010101 101000, the last not RIGHT: no bit of the first PIECE helps, for 101000 is RIGHT
+        // by it alone; 101000 helps with 9, 10 or 11 (not 7: 111000 is not due); then 3, 3 and 4 bits more
+        EvenWords y = turned(sent(18, 18, 0, 18, 18), 22);
+        reads(y, "of five WORDS", 0, 0, 5, 4, 1, 13, 9, 3);
+        reads(sent(0), "of one WORD behind it", 0, 0, 1, NONE, 0, 3, 0, NOT);
+        due("BLAMED of none by the same object", y.clears() + y.read(0, 0, 3), 5);
     }
 
     private static void cutsOf(EvenWords x, String when, int... want) {
