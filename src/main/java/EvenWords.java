@@ -355,43 +355,25 @@ public final class EvenWords {
     /** The FAULT of THE TEXT, or -1; if there is none, told has what the ITEMS tell. */
     private int faultPlace() {
         int due = HEAD_DUE;
-        int at = 0;
         items = 0;
-        while (at < letters && at < MOST_LETTERS) {
-            int end = at + 1;
-            if (text[at] != ' ') {
-                end = tokenEnd(at);
-                due = afterToken(due, at, end);
+        for (int at = 0; at < letters; at++) {
+            if (isTokenStart(at)) {
+                due = afterToken(due, at);
                 if (due == NOTHING_FITS) {
                     return at;
                 }
             }
-            at = end;
         }
         return due == HEAD_DUE && items > 0 ? -1 : letters;
     }
 
-    private int tokenEnd(int at) {
-        int end = at;
-        while (isFigure(end)) {
-            end++;
-        }
-        return end == at ? at + 1 : end;
+    private boolean isTokenStart(int at) {
+        return letterAt(at) != ' ' && (figureAt(at) < 0 || figureAt(at - 1) < 0);
     }
 
-    private boolean isFigure(int at) {
-        if (at < 0 || at >= letters || at >= MOST_LETTERS) {
-            return false;
-        }
-        return text[at] >= '0' && text[at] <= '9';
-    }
-
-    /** What is due behind the TOKEN from at to end, if due is what may stand there. */
-    private int afterToken(int due, int at, int end) {
-        if (at < 0 || at >= MOST_LETTERS) {
-            return NOTHING_FITS;
-        }
-        int letter = text[at];
+    /** What is due behind the TOKEN from at on, if due is what may stand there. */
+    private int afterToken(int due, int at) {
+        int letter = letterAt(at);
         switch (due) {
             case HEAD_DUE:
                 if (letter == 'd') {
@@ -399,9 +381,9 @@ public final class EvenWords {
                 }
                 return letter == 'k' ? MARK_DUE : NOTHING_FITS;
             case DATA_DUE:
-                return afterNumber(numberAt(at, end), 0, DATA_KINDS);
+                return afterNumber(numberAt(at), 0, DATA_KINDS);
             case MARK_DUE:
-                return afterNumber(numberAt(at, end), DATA_KINDS, MARK_KINDS);
+                return afterNumber(numberAt(at), DATA_KINDS, MARK_KINDS);
             default:
                 return letter == ';' ? HEAD_DUE : NOTHING_FITS;
         }
@@ -416,19 +398,26 @@ public final class EvenWords {
         return END_DUE;
     }
 
-    /** The NUMBER from at to end, or -1, if it is none or not as a NUMBER may be. */
-    private int numberAt(int at, int end) {
-        if (!isFigure(at) || end - at > 2) {
-            return -1;
+    /** The NUMBER from at on, or -1, if there is none or it is not as a NUMBER may be. */
+    private int numberAt(int at) {
+        int first = figureAt(at);
+        int second = figureAt(at + 1);
+        if (first < 0 || second < 0) {
+            return first;
         }
-        int tens = text[at] - '0';
-        if (end - at == 1) {
-            return tens;
-        }
-        if (tens == 0 || !isFigure(at + 1)) {
-            return -1;
-        }
-        return 10 * tens + text[at + 1] - '0';
+        boolean above99 = figureAt(at + 2) >= 0;
+        return first == 0 || above99 ? -1 : 10 * first + second;
+    }
+
+    /** The figure at this place, or -1. */
+    private int figureAt(int at) {
+        int letter = letterAt(at);
+        return letter >= '0' && letter <= '9' ? letter - '0' : -1;
+    }
+
+    /** The letter at this place, or -1 where there is none. */
+    private int letterAt(int at) {
+        return at >= 0 && at < letters && at < MOST_LETTERS ? text[at] : -1;
     }
 
     private static boolean canRead(int f, int u) {
