@@ -8,6 +8,7 @@ public final class BoundsOfReadingTest {
         pieceBad();
         pieces();
         right();
+        meanings();
         sumBehind();
         formBreaches();
         runBreaches();
@@ -260,6 +261,31 @@ public final class BoundsOfReadingTest {
             isRight("100001", 32, 0, 1);
             isRight("000110", 28, 0, 1);
             isRight("110110", 27, 1, 0);
+        });
+    }
+
+    private static void meanings() {
+        Check.sentence("piece: what it is: DATA 0 .. 30, MARKS 31 .. 33, in FORM A", () -> {
+            for (int kind = 0; kind <= 33; kind++) {
+                Used x = Used.sent(kind);
+                Check.due("FORM A of " + kind + " by u -1", x.piece(0, 0, 0, 1), kind);
+                Check.due("FORM A of " + kind + " by u 1", x.piece(0, 1, 0, 1), kind);
+            }
+        });
+        Check.sentence("piece: what it is: DATA 0 .. 30, MARKS 31 .. 33, in FORM B", () -> {
+            for (int kind = 0; kind <= 33; kind++) {
+                Used x = Used.sent(18, kind);
+                Check.due("FORM B of " + kind + " by u -1", x.piece(0, 0, 1, 1), kind);
+                Check.due("FORM B of " + kind + " by u 1", x.piece(0, 1, 1, 1), kind);
+            }
+        });
+        Check.sentence("piece: what it is: NONE: all 14 numbers that are no FORM", () -> {
+            for (int number : new int[] {0, 1, 2, 4, 8, 16, 32, 31, 47, 55, 59, 61, 62, 63}) {
+                Used x = Used.wire(Integer.toBinaryString(64 + number).substring(1));
+                Check.due(number + " as a number", x.piece(0, 0, 0, 0), number);
+                Check.due("what " + number + " is", x.piece(0, 0, 0, 1), Check.NONE);
+                Check.due("BREACHES 1, 2 of " + number, x.piece(0, 1, 0, 3) & 3, 1);
+            }
         });
     }
 

@@ -14,12 +14,14 @@ public final class BoundsOfSumsTest {
         keep();
         backRefused();
         back();
+        backAsSent();
         backUndone();
         imagesStay();
         countBad();
         countLeastAndMost();
         countTurned();
         nothingChanges();
+        oneBehindAnother();
         manyCalls();
         Check.end();
     }
@@ -434,6 +436,32 @@ public final class BoundsOfSumsTest {
         });
     }
 
+    private static void backAsSent() {
+        Check.sentence("back: what was SENT, too: what is TURNED of it, and EVENEST", () -> {
+            Used x = Used.sent(9, 30).turn(1);
+            x.keep(0);
+            x.clears();
+            x.send(30, 9);
+            Check.due("back(0)", x.back(0), 2);
+            Check.due("TURNED", x.count(3), 1);
+            order(x, "100011 111000", 3, 1, 0);
+            order(x, "111000 behind 100011", 5, 0);
+            x.turn(1);
+            Check.due("TURNED back", x.count(3), 0);
+        });
+        Check.sentence("UNDONE: what was SENT, too: what is TURNED of it, and EVENEST", () -> {
+            Used x = Used.sent(9, 30).turn(1);
+            x.clears();
+            x.send(30, 9);
+            x.undo();
+            x.undo();
+            Check.due("undo() of clears()", x.undo(), 3);
+            Check.due("TURNED", x.count(3), 1);
+            order(x, "100011 111000", 3, 1, 0);
+            order(x, "111000 behind 100011", 5, 0);
+        });
+    }
+
     private static void backUndone() {
         Check.sentence("back: nothing can be UNDONE behind it", () -> {
             Used x = Used.sent(0, 1, 2, 3, 4, 5, 6);
@@ -617,6 +645,41 @@ public final class BoundsOfSumsTest {
                 int it = what;
                 Check.idle("count(" + what + ")", BoundsOfSumsTest::some, x -> x.count(it), some().count(what));
             }
+        });
+    }
+
+    private static void oneBehindAnother() {
+        Check.sentence("(Nothing is changed from here on.) level, weight, LONGEST, EVENEST don't lean on one another", () -> {
+            Used x = Used.sent(9, 30);
+            for (int round = 0; round < 2; round++) {
+                Check.due("weight(1)", x.weight(1), -12);
+                Check.due("count(4)", x.count(4), 5);
+                Check.due("level(2, 0)", x.level(2, 0), 1);
+                Check.due("read(5, 1, 0)", x.read(5, 1, 0), 1);
+                Check.due("evenest(2, -1)", x.evenest(2, -1), 3);
+                Check.due("evenest(1, -1)", x.evenest(1, -1), 5);
+            }
+            // 010111 ends at LEVEL 1: the next call begins at u -1 nevertheless
+            Used y = Used.sent(18);
+            for (int round = 0; round < 2; round++) {
+                Check.due("weight(1) of 010111", y.weight(1), -8);
+                Check.due("level(1, 0) of 010111", y.level(1, 0), 1);
+                Check.due("count(4) of 010111", y.count(4), 3);
+                Check.due("evenest(1, -1) of 010111", y.evenest(1, -1), 3);
+            }
+        });
+        Check.sentence("LONGEST (0: no bits): it goes down again with THE WIRE", () -> {
+            Used x = Used.sent(4).turn(0, 2);
+            Check.due("count(4)", x.count(4), 4);
+            x.turn(2);
+            Check.due("count(4) with a bit TURNED back", x.count(4), 2);
+            x.clears();
+            Check.due("count(4) of no WORDS", x.count(4), 0);
+            Check.due("weight(1) of no WORDS", x.weight(1), 0);
+            Check.due("level(0, 1) of no WORDS", x.level(0, 1), Check.NOT);
+            x.sends(4);
+            Check.due("count(4) of 010101", x.count(4), 1);
+            Check.due("evenest(1, -1) of 010101", x.evenest(1, -1), 1);
         });
     }
 

@@ -141,6 +141,23 @@ public final class BoundsOfTextTest {
             x.tells();
             Check.due("kinds of what came then", x.kinds(), "32");
         });
+        Check.sentence("THE TEXT is empty behind clear() and tells(): no letter of it comes into the next one", () -> {
+            Used x = Used.text("d35;");
+            x.clear();
+            x.write("d3");
+            Check.due("tells() of d3", x.tells(), -12);
+            x.write(";");
+            Check.due("tells() of d3;", x.tells(), 1);
+            x.write("k1");
+            Check.due("tells() of k1", x.tells(), -12);
+            Used y = Used.text("d1;d29;").write("k2;");
+            y.tells();
+            y.write("k1;d4");
+            Check.due("tells() of k1;d4", y.tells(), -15);
+            y.write(";");
+            Check.due("tells() of k1;d4;", y.tells(), 2);
+            Check.due("kinds", y.kinds(), "1 29 33 32 4");
+        });
         Check.sentence("clear: nothing but THE TEXT changes, nothing more may be UNDONE", () -> {
             Used x = Used.sent(18, 31).turn(3);
             x.keep(1);

@@ -136,6 +136,16 @@ public final class FaceTest {
             check(List.of("Integer.bitCount", "Math.max", "Math.min").contains(call), "of the library: " + call);
         }
         methodLengths(code);
+        loopEnds(code);
+    }
+
+    /** A loop's end is seen from its own lines: its head holds something against a bound. */
+    private static void loopEnds(String code) {
+        for (String line : code.split("\n")) {
+            if (line.matches("\\s*(for|while|do)\\b.*")) {
+                check(line.matches(".* (<|<=|>|>=) .*"), "a loop with a bound: " + line.trim());
+            }
+        }
     }
 
     private static void methodLengths(String code) {
