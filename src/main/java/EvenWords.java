@@ -132,7 +132,7 @@ public final class EvenWords {
         if (!Forms.isKind(k) || form < 0 || form > 1) {
             return BAD;
         }
-        return form == 0 ? Forms.formA(k) : Forms.formB(k);
+        return Forms.formDue(k, sumOf(form));
     }
 
     public int bit(int b) {
@@ -457,16 +457,10 @@ public final class EvenWords {
             return kind >= 0 && kind < DATA_KINDS + MARK_KINDS;
         }
 
-        static int formA(int kind) {
-            return kind >= 0 && kind < AS_A.length ? AS_A[kind] : 0;
-        }
-
-        static int formB(int kind) {
-            return kind < SAME_IN_BOTH ? formA(kind) : 63 - formA(kind);
-        }
-
+        /** FORM A at SUM -1, FORM B at 1. */
         static int formDue(int kind, int sum) {
-            return sum == 1 ? formB(kind) : formA(kind);
+            int formA = kind >= 0 && kind < AS_A.length ? AS_A[kind] : 0;
+            return sum == 1 && kind >= SAME_IN_BOTH ? 63 - formA : formA;
         }
 
         static int meaning(int number) {
